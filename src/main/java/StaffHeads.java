@@ -287,11 +287,10 @@ public final class StaffHeads {
     /** Steps from LINE 1 of STAFF 0 down to LINE 1 of a STAFF that is not HIDDEN. */
     private int stepsDownTo(int staff) {
         int steps = 0;
-        int lower = staff;
-        while (lower > 0) {
-            int upper = shownAbove(lower);
-            steps += gapBetween(upper, lower) + TOP;
-            lower = upper;
+        for (int lower = 1; lower <= staff; lower++) {
+            if (!isHidden(lower)) {
+                steps += gapBetween(shownAbove(lower), lower) + TOP;
+            }
         }
         return steps;
     }

@@ -22,6 +22,7 @@ public final class PromisesTest {
         promise7StepsAndLedgers();
         promise7Stems();
         promise7Aside();
+        promise7Sixty();
         promise7Moved();
         promise7MovedOfThree();
         promise7Signs();
@@ -270,6 +271,28 @@ public final class PromisesTest {
         dueOf("thirds", x, ASIDE, 16, 0, 0, 0);
         dueOf("sizes", x, SIZE, 0, 3, 3, 3, 5, 5, 5, 5, 5, 4);
         dueOf("columns", x, COLUMN, 3, 0, -1, -1, 0, 0);
+        addChord(x, 0, 5, 0, 0);
+        addChord(x, 0, 6, 9, 9);
+        dueOf("of two equal ones the second is aside", x, ASIDE, 19, 0, 1, 0, -1);
+        StaffHeads y = new StaffHeads(1);
+        addChord(y, 0, 0, 1, 0);
+        dueOf("the first, being above", y, ASIDE, 0, 1, 0);
+        y.drop(1);
+        dueOf("no longer", y, ASIDE, 0, 0);
+    }
+
+    private static void promise7Sixty() {
+        StaffHeads x = new StaffHeads(1);
+        for (int i = 0; i < 60; i++) {
+            x.note(3, 2, 99, i % 7, i / 7, i % 5 - 2, BLACK);
+        }
+        for (int i = 0; i < 60; i++) {
+            check.due("sixty: step of " + i, x.of(i, STEP), i - 30);
+            check.due("sixty: size of " + i, x.of(i, SIZE), 60);
+            check.due("sixty: aside of " + i, x.of(i, ASIDE), i % 2);
+        }
+        check.due("sixty: notes", x.at(3, 99, NOTES), 60);
+        check.due("sixty: not crowded", x.crowded(3), 0);
     }
 
     private static void promise7Moved() {
@@ -369,6 +392,10 @@ public final class PromisesTest {
         // turns: 5 (column 1), -3 (8 away: 1), 5 (as the first: 1), 0 (2), 3 (3)
         dueOf("a sign that is there already takes a turn", x, SIGN_COLUMN, 7, 1, 2, 1, 3, 1);
         check.due("greatest", x.at(0, 2, SIGNS), 3);
+        add(x, 0, 0, 3, 8, 1, BLACK);
+        add(x, 0, 1, 3, 0, 1, BLACK);
+        add(x, 0, 1, 3, 0, 0, BLACK);
+        dueOf("of equal lowest ones the least number", x, SIGN_COLUMN, 12, 1, 1, 2);
     }
 
     private static void promise7Refused() {
@@ -455,6 +482,10 @@ public final class PromisesTest {
         add(y, 0, 1, 1, 6, BARE, HALF);
         check.due("high, not only whole heads", y.at(0, 1, HIGH), 19);
         check.due("low, not only whole heads", y.at(0, 1, LOW), -8);
+        addChord(y, 0, 2, 4);
+        check.due("voices of other ticks do not reach here: high", y.at(0, 2, HIGH), 8);
+        addChord(y, 0, 3, 0);
+        check.due("voices of other ticks do not reach here: low", y.at(0, 3, LOW), 0);
         y.shift(0, 1, 1, 1);
         check.due("high, shifted", y.at(0, 1, HIGH), 12);
         check.due("low, shifted", y.at(0, 1, LOW), -15);
@@ -554,6 +585,10 @@ public final class PromisesTest {
         check.due("staff 2 below staff 0", x.place(2), (30L + 31 + 2 + 8) * 65536);
         check.due("staff 3 is hidden", x.place(3), NONE);
         x.drop(1);
+        check.due("its last note went", x.place(2), NONE);
+        x.drop(0);
+        add(x, 3, 0, 0, 0, BARE, BLACK);
+        check.due("its first note came", x.place(3), 14L * 65536);
         x.drop(0);
         check.due("staff 0 without notes", x.place(0), 0);
         check.due("staff 2 without notes", x.place(2), NONE);
