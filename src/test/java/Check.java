@@ -18,6 +18,13 @@ final class Check {
         }
     }
 
+    /** What the NOTES from one number on answer, in turn. */
+    void dueOf(String what, StaffHeads x, int asked, int first, int... wants) {
+        for (int i = 0; i < wants.length; i++) {
+            due(what + ": of(" + (first + i) + ", " + asked + ")", x.of(first + i, asked), wants[i]);
+        }
+    }
+
     void holds(String what, boolean truth) {
         due(what, truth ? 1 : 0, 1);
     }

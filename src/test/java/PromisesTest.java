@@ -1,14 +1,5 @@
 /** A method for each promise of the document: ordinary inputs, edges, wrong inputs. */
-public final class PromisesTest {
-    private static final int UNKNOWN = StaffHeads.UNKNOWN, OUTSIDE = StaffHeads.OUTSIDE;
-    private static final int FULL = StaffHeads.FULL, NONE = StaffHeads.NONE;
-    private static final int WHOLE = 0, HALF = 1, BLACK = 2;
-    private static final int BARE = 3;
-    private static final int[] NO_STAFF = {-1, 4, Integer.MIN_VALUE, Integer.MAX_VALUE};
-    private static final int STEP = 0, BELOW = 1, ABOVE = 2, STEM = 3, ASIDE = 4, COLUMN = 5,
-        SIGN_COLUMN = 6, MOVED = 7, SIZE = 8;
-    private static final int HIGH = 0, LOW = 1, NOTES = 2, CHORDS = 3, SIGNS = 4;
-
+public final class PromisesTest extends Terms {
     private static final Check check = new Check("PromisesTest");
 
     public static void main(String[] args) {
@@ -39,29 +30,6 @@ public final class PromisesTest {
         promise15Crowded();
         promise16About();
         check.end();
-    }
-
-    /** Adds a NOTE by the STEP that the first CLEF gives it. */
-    private static int add(StaffHeads x, int staff, int voice, int tick, int step, int sign, int head) {
-        int number = 30 + step;
-        return x.note(staff, voice, tick, number % 7, number / 7, sign, head);
-    }
-
-    private static void addChord(StaffHeads x, int voice, int tick, int... steps) {
-        addHeads(x, voice, tick, BLACK, steps);
-    }
-
-    private static void addHeads(StaffHeads x, int voice, int tick, int head, int... steps) {
-        for (int step : steps) {
-            add(x, 0, voice, tick, step, BARE, head);
-        }
-    }
-
-    /** What the NOTES from one number on answer, in turn. */
-    private static void dueOf(String name, StaffHeads x, int what, int first, int... wants) {
-        for (int i = 0; i < wants.length; i++) {
-            check.due(name + ": of(" + (first + i) + ", " + what + ")", x.of(first + i, what), wants[i]);
-        }
     }
 
     private static void promise1NewObject() {
@@ -113,15 +81,15 @@ public final class PromisesTest {
         }
         int other = add(x, 3, 0, 6, 3, BARE, BLACK);
         check.due("first shift", x.shift(0, 5, 7, 1), 1);
-        dueOf("octave up", x, STEP, 0, 3, 3, -4, -4, -4, 3, 3);
+        check.dueOf("octave up", x, STEP, 0, 3, 3, -4, -4, -4, 3, 3);
         check.due("second shift", x.shift(0, 7, 99, 2), 2);
-        dueOf("two shifts", x, STEP, 0, 3, 3, -4, -4, -18, -11, -11);
+        check.dueOf("two shifts", x, STEP, 0, 3, 3, -4, -4, -18, -11, -11);
         check.due("third shift", x.shift(0, 0, 99, -2), 3);
-        dueOf("three shifts", x, STEP, 0, 17, 17, 10, 10, -4, 3, 3);
+        check.dueOf("three shifts", x, STEP, 0, 17, 17, 10, 10, -4, 3, 3);
         check.due("shift of one tick", x.shift(0, 4, 4, -1), 4);
-        dueOf("four shifts", x, STEP, 0, 17, 24, 10, 10, -4, 3, 3);
+        check.dueOf("four shifts", x, STEP, 0, 17, 24, 10, 10, -4, 3, 3);
         check.due("shift by none", x.shift(0, 0, 99, 0), 5);
-        dueOf("five shifts", x, STEP, 0, 17, 24, 10, 10, -4, 3, 3);
+        check.dueOf("five shifts", x, STEP, 0, 17, 24, 10, 10, -4, 3, 3);
         check.due("another staff's step", x.of(other, STEP), 3);
         check.due("how many", x.about(1), 5);
     }
@@ -191,18 +159,14 @@ public final class PromisesTest {
         check.due("sixty", x.about(0), 60);
     }
 
-    private static int noteOf(StaffHeads x, int[] a) {
-        return x.note(a[0], a[1], a[2], a[3], a[4], a[5], a[6]);
-    }
-
     private static void promise6Drop() {
         StaffHeads x = new StaffHeads(1);
         check.due("drop of none", x.drop(0), UNKNOWN);
         addChord(x, 0, 0, 0, 3, 6);
         add(x, 1, 2, 7, 9, 1, HALF);
         check.due("drop", x.drop(1), 3);
-        dueOf("numbers close up", x, STEP, 0, 0, 6, 9);
-        dueOf("the chord is smaller", x, SIZE, 0, 2, 2, 1);
+        check.dueOf("numbers close up", x, STEP, 0, 0, 6, 9);
+        check.dueOf("the chord is smaller", x, SIZE, 0, 2, 2, 1);
         check.due("what moved down kept its sign", x.of(2, SIGN_COLUMN), 1);
         check.due("what moved down kept its place", x.at(1, 7, NOTES), 1);
         for (int wrong : new int[] {-1, 3, 60, Integer.MIN_VALUE, Integer.MAX_VALUE}) {
@@ -242,43 +206,43 @@ public final class PromisesTest {
         addChord(x, 0, 3, 1, 6);
         addChord(x, 0, 4, 2, 6);
         addChord(x, 0, 5, 2, 7);
-        dueOf("stems of lone voices", x, STEM, 0, 1, 0, 0, 1, 1, 0, 0, 0, 0);
+        check.dueOf("stems of lone voices", x, STEM, 0, 1, 0, 0, 1, 1, 0, 0, 0, 0);
         StaffHeads y = new StaffHeads(1);
         addChord(y, 2, 0, -5);
         addChord(y, 1, 0, 12);
-        dueOf("the least voice that is there goes up", y, STEM, 0, 0, 1);
+        check.dueOf("the least voice that is there goes up", y, STEM, 0, 0, 1);
         addChord(y, 0, 0, 20);
-        dueOf("of three voices one goes up", y, STEM, 0, 0, 0, 1);
+        check.dueOf("of three voices one goes up", y, STEM, 0, 0, 0, 1);
         add(y, 0, 0, 1, 20, BARE, BLACK);
         add(y, 1, 1, 1, -5, BARE, BLACK);
-        dueOf("other ticks and staves do not matter", y, STEM, 3, 0, 1);
+        check.dueOf("other ticks and staves do not matter", y, STEM, 3, 0, 1);
         y.drop(2);
         y.drop(1);
-        dueOf("alone again", y, STEM, 0, 1);
+        check.dueOf("alone again", y, STEM, 0, 1);
     }
 
     private static void promise7Aside() {
         StaffHeads x = new StaffHeads(1);
         addChord(x, 0, 0, 2, 0, 1);
-        dueOf("up, given in no order", x, ASIDE, 0, 0, 0, 1);
+        check.dueOf("up, given in no order", x, ASIDE, 0, 0, 0, 1);
         addChord(x, 0, 1, 9, 8, 10, 11, 6);
-        dueOf("down", x, ASIDE, 3, 0, -1, -1, 0, 0);
+        check.dueOf("down", x, ASIDE, 3, 0, -1, -1, 0, 0);
         addChord(x, 0, 2, -1, -1, -1, 0);
-        dueOf("equal steps, up", x, ASIDE, 8, 0, 1, 0, 1);
+        check.dueOf("equal steps, up", x, ASIDE, 8, 0, 1, 0, 1);
         addChord(x, 0, 3, 9, 10, 10, 10);
-        dueOf("equal steps, down", x, ASIDE, 12, -1, 0, -1, 0);
+        check.dueOf("equal steps, down", x, ASIDE, 12, -1, 0, -1, 0);
         addChord(x, 0, 4, 0, 2, 4);
-        dueOf("thirds", x, ASIDE, 16, 0, 0, 0);
-        dueOf("sizes", x, SIZE, 0, 3, 3, 3, 5, 5, 5, 5, 5, 4);
-        dueOf("columns", x, COLUMN, 3, 0, -1, -1, 0, 0);
+        check.dueOf("thirds", x, ASIDE, 16, 0, 0, 0);
+        check.dueOf("sizes", x, SIZE, 0, 3, 3, 3, 5, 5, 5, 5, 5, 4);
+        check.dueOf("columns", x, COLUMN, 3, 0, -1, -1, 0, 0);
         addChord(x, 0, 5, 0, 0);
         addChord(x, 0, 6, 9, 9);
-        dueOf("of two equal ones the second is aside", x, ASIDE, 19, 0, 1, 0, -1);
+        check.dueOf("of two equal ones the second is aside", x, ASIDE, 19, 0, 1, 0, -1);
         StaffHeads y = new StaffHeads(1);
         addChord(y, 0, 0, 1, 0);
-        dueOf("the first, being above", y, ASIDE, 0, 1, 0);
+        check.dueOf("the first, being above", y, ASIDE, 0, 1, 0);
         y.drop(1);
-        dueOf("no longer", y, ASIDE, 0, 0);
+        check.dueOf("no longer", y, ASIDE, 0, 0);
     }
 
     private static void promise7Sixty() {
@@ -311,23 +275,23 @@ public final class PromisesTest {
         StaffHeads y = new StaffHeads(1);
         addChord(y, 0, 0, 0, 1);
         addHeads(y, 1, 0, HALF, 1);
-        dueOf("past a head to the right", y, MOVED, 0, 0, 0, 2);
+        check.dueOf("past a head to the right", y, MOVED, 0, 0, 0, 2);
         addChord(y, 0, 1, 1, 2);
         addHeads(y, 1, 1, HALF, 1, 2);
-        dueOf("own head to the left", y, ASIDE, 3, 0, 1, -1, 0);
-        dueOf("moved past with it", y, MOVED, 3, 0, 0, 3, 3);
-        dueOf("its columns", y, COLUMN, 3, 0, 1, 2, 3);
+        check.dueOf("own head to the left", y, ASIDE, 3, 0, 1, -1, 0);
+        check.dueOf("moved past with it", y, MOVED, 3, 0, 0, 3, 3);
+        check.dueOf("its columns", y, COLUMN, 3, 0, 1, 2, 3);
         addChord(y, 1, 2, 3);
         addChord(y, 2, 2, 3);
-        dueOf("voices 1 and 2 share", y, MOVED, 7, 0, 0);
+        check.dueOf("voices 1 and 2 share", y, MOVED, 7, 0, 0);
         add(y, 0, 0, 3, 3, BARE, HALF);
         add(y, 0, 1, 3, 3, BARE, BLACK);
         add(y, 0, 0, 4, 3, 1, BLACK);
         add(y, 0, 1, 4, 3, 0, BLACK);
-        dueOf("unlike heads, unlike signs", y, MOVED, 9, 0, 1, 0, 1);
+        check.dueOf("unlike heads, unlike signs", y, MOVED, 9, 0, 1, 0, 1);
         addChord(y, 0, 5, 0, 1);
         addChord(y, 1, 5, 1);
-        dueOf("shared with a head to the right", y, MOVED, 13, 0, 0, 1);
+        check.dueOf("shared with a head to the right", y, MOVED, 13, 0, 0, 1);
     }
 
     private static void promise7MovedOfThree() {
@@ -335,20 +299,20 @@ public final class PromisesTest {
         addChord(x, 0, 0, 4);
         addChord(x, 1, 0, 4);
         addChord(x, 2, 0, 4);
-        dueOf("two stems down share nothing", x, MOVED, 0, 0, 0, 1);
+        check.dueOf("two stems down share nothing", x, MOVED, 0, 0, 0, 1);
         addChord(x, 2, 1, 5);
         addChord(x, 1, 1, 5);
         addChord(x, 0, 1, 4);
-        dueOf("given from the greatest voice on", x, MOVED, 3, 2, 1, 0);
+        check.dueOf("given from the greatest voice on", x, MOVED, 3, 2, 1, 0);
         addChord(x, 0, 2, 8);
         addChord(x, 1, 2, 3);
         addChord(x, 2, 2, 8, 3);
-        dueOf("one shared, one not", x, MOVED, 6, 0, 0, 1, 1);
+        check.dueOf("one shared, one not", x, MOVED, 6, 0, 0, 1, 1);
         addHeads(x, 0, 3, BLACK, 1, 2);
         addHeads(x, 1, 3, HALF, 1, 2);
         addHeads(x, 2, 3, WHOLE, 1, 2);
-        dueOf("as far as it goes", x, MOVED, 10, 0, 0, 3, 3, 5, 5);
-        dueOf("all side by side", x, COLUMN, 10, 0, 1, 2, 3, 4, 5);
+        check.dueOf("as far as it goes", x, MOVED, 10, 0, 0, 3, 3, 5, 5);
+        check.dueOf("all side by side", x, COLUMN, 10, 0, 1, 2, 3, 4, 5);
     }
 
     private static void promise7Signs() {
@@ -358,17 +322,17 @@ public final class PromisesTest {
         add(x, 0, 1, 0, 4, BARE, BLACK);
         add(x, 0, 1, 0, 5, -1, BLACK);
         add(x, 0, 2, 0, 7, 0, BLACK);
-        dueOf("highest, lowest, highest, lowest", x, SIGN_COLUMN, 0, 1, 3, 0, 2, 1);
+        check.dueOf("highest, lowest, highest, lowest", x, SIGN_COLUMN, 0, 1, 3, 0, 2, 1);
         check.due("greatest of these", x.at(0, 0, SIGNS), 3);
         add(x, 0, 0, 1, 0, 2, BLACK);
         add(x, 0, 0, 1, 6, 2, BLACK);
-        dueOf("6 steps are enough", x, SIGN_COLUMN, 5, 1, 1);
+        check.dueOf("6 steps are enough", x, SIGN_COLUMN, 5, 1, 1);
         add(x, 0, 0, 2, 0, -2, BLACK);
         add(x, 0, 0, 2, 5, -2, BLACK);
-        dueOf("5 steps are not", x, SIGN_COLUMN, 7, 2, 1);
+        check.dueOf("5 steps are not", x, SIGN_COLUMN, 7, 2, 1);
         add(x, 1, 0, 2, 5, -2, BLACK);
         add(x, 0, 0, 3, 5, 0, BLACK);
-        dueOf("other staves and ticks do not matter", x, SIGN_COLUMN, 9, 1, 1);
+        check.dueOf("other staves and ticks do not matter", x, SIGN_COLUMN, 9, 1, 1);
     }
 
     private static void promise7EqualSigns() {
@@ -376,13 +340,13 @@ public final class PromisesTest {
         add(x, 0, 0, 0, 4, 1, BLACK);
         add(x, 0, 1, 0, 4, 1, BLACK);
         add(x, 0, 2, 0, 4, 0, BLACK);
-        dueOf("one sign for both", x, SIGN_COLUMN, 0, 1, 1, 2);
+        check.dueOf("one sign for both", x, SIGN_COLUMN, 0, 1, 1, 2);
         // 8 first, then 0, then of the two at 4 the first; so the second, last one stands further left
         add(x, 0, 0, 1, 4, -1, BLACK);
         add(x, 0, 1, 1, 4, 1, BLACK);
         add(x, 0, 0, 1, 8, 0, BLACK);
         add(x, 0, 1, 1, 0, 0, BLACK);
-        dueOf("of equal steps the least number", x, SIGN_COLUMN, 3, 2, 3, 1, 1);
+        check.dueOf("of equal steps the least number", x, SIGN_COLUMN, 3, 2, 3, 1, 1);
         // 5 of one sign takes two turns: then 0 comes before 3, and 3 stands furthest left
         add(x, 0, 0, 2, 5, 1, BLACK);
         add(x, 0, 1, 2, 0, 1, BLACK);
@@ -390,12 +354,12 @@ public final class PromisesTest {
         add(x, 0, 1, 2, 3, 1, BLACK);
         add(x, 0, 1, 2, -3, 1, BLACK);
         // turns: 5 (column 1), -3 (8 away: 1), 5 (as the first: 1), 0 (2), 3 (3)
-        dueOf("a sign that is there already takes a turn", x, SIGN_COLUMN, 7, 1, 2, 1, 3, 1);
+        check.dueOf("a sign that is there already takes a turn", x, SIGN_COLUMN, 7, 1, 2, 1, 3, 1);
         check.due("greatest", x.at(0, 2, SIGNS), 3);
         add(x, 0, 0, 3, 8, 1, BLACK);
         add(x, 0, 1, 3, 0, 1, BLACK);
         add(x, 0, 1, 3, 0, 0, BLACK);
-        dueOf("of equal lowest ones the least number", x, SIGN_COLUMN, 12, 1, 1, 2);
+        check.dueOf("of equal lowest ones the least number", x, SIGN_COLUMN, 12, 1, 1, 2);
     }
 
     private static void promise7Refused() {
@@ -632,13 +596,7 @@ public final class PromisesTest {
     }
 
     private static void dueNoNotes(String name, StaffHeads x, int staff) {
-        boolean thrown = false;
-        try {
-            x.crowded(staff);
-        } catch (ArithmeticException e) {
-            thrown = e.getClass() == ArithmeticException.class;
-        }
-        check.holds("crowded throws for " + name, thrown);
+        check.due("crowded throws for " + name, crowdedOf(x, staff), THROWN);
     }
 
     private static void promise16About() {
